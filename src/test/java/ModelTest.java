@@ -96,9 +96,9 @@ public final class ModelTest {
                 case 0 -> due(call, "hit()", cache.hit() ? 1 : 0, model.hit ? 1 : 0);
                 case 1 -> due(call, "says(" + b + ")", cache.says(b), model.says(b));
                 case 2 -> due(call, "stored(" + b + ")", cache.stored(b), model.store.getOrDefault(b, 0));
-                case 3 -> due(call, "slot(" + b + ")", cache.slot(b), model.held.containsKey(b) ? model.held.get(b).slot : -1);
-                case 4 -> due(call, "named(" + b + ")", cache.named(b), model.journal.containsKey(b) ? model.journal.get(b).slot : -1);
-                case 5 -> due(call, "epoch(" + b + ")", cache.epoch(b), model.isDirty(b) ? model.held.get(b).epoch : -1);
+                case 3 -> due(call, "slot(" + b + ")", cache.slot(b), Model.slotIn(model.held, b));
+                case 4 -> due(call, "named(" + b + ")", cache.named(b), Model.slotIn(model.journal, b));
+                case 5 -> due(call, "epoch(" + b + ")", cache.epoch(b), model.epoch(b));
                 case 6 -> due(call, "list(" + b + ")", cache.list(b), model.list(b));
                 case 7 -> due(call, "member(" + list + ", " + k + ")", cache.member(list, k), model.member(list, k));
                 case 8 -> due(call, "target()", cache.target(), model.target);
@@ -216,6 +216,14 @@ public final class ModelTest {
         int member(int list, int k) {
             boolean there = list >= 1 && list <= 4 && k >= 0 && k < lists.get(list - 1).size();
             return there ? lists.get(list - 1).get(k) : -1;
+        }
+
+        static int slotIn(Map<Integer, Place> places, int b) {
+            return places.containsKey(b) ? places.get(b).slot : -1;
+        }
+
+        int epoch(int b) {
+            return isDirty(b) ? held.get(b).epoch : -1;
         }
 
         boolean isDirty(int b) {

@@ -30,6 +30,7 @@ public final class PromiseTest {
         epoch();
         list();
         oldestIsForgotten();
+        emptyR1GivesNothing();
         member();
         target();
         targetStaysInItsBounds();
@@ -243,6 +244,11 @@ public final class PromiseTest {
         x.flush();
         due("5: least epoch", x.tick(), 2);
         due("5: then the next", x.tick(), 0);
+        EpochCache y = new EpochCache(2);
+        y.write(1, 10);
+        y.write(2, 20);
+        y.flush();
+        due("5: of one epoch the least number", y.tick(), 1);
     }
 
     // Promise 6
@@ -557,6 +563,19 @@ public final class PromiseTest {
         Check.dueList("15: oldest of G2 forgotten, G2", y, 4, 1, 2);
         Check.dueList("15: oldest of G2 forgotten, R2", y, 2, 3);
         due("15: oldest of G2 forgotten", y.list(0), 0);
+    }
+
+    private static void emptyR1GivesNothing() {
+        EpochCache x = new EpochCache(2);
+        readAll(x, 0, 0, 1, 1, 2, 2);
+        Check.dueList("15: R1", x, 1);
+        Check.dueList("15: G2", x, 4, 0);
+        // |R1| is the target, and 0 is in G2, but R1 is empty.
+        x.read(0);
+        Check.dueList("15: R2 gives, R2", x, 2, 2, 0);
+        Check.dueList("15: R2 gives, G1", x, 3);
+        Check.dueList("15: R2 gives, G2", x, 4, 1);
+        due("15: R2 gives", x.slot(1), -1);
     }
 
     private static void member() {
