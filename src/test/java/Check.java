@@ -1,16 +1,40 @@
 /** Counts and prints the answers that are not as due; every test of the project ends by finish(). */
 final class Check {
+    private static String about = "";
+    private static int cases = 0;
     private static int wrong = 0;
     private static int asked = 0;
 
+    static {
+        Thread.setDefaultUncaughtExceptionHandler((thread, problem) -> {
+            System.out.println(about + "threw " + problem);
+            problem.printStackTrace();
+            System.exit(1);
+        });
+    }
+
     private Check() {
+    }
+
+    /** Names the promise or term, and the case of it, that the answers from here on belong to. */
+    static void about(String sentenceAndCase) {
+        cases++;
+        about = sentenceAndCase + " | ";
+    }
+
+    static void due(String what, String got, String want) {
+        asked++;
+        if (!got.equals(want)) {
+            wrong++;
+            System.out.println(about + what + " answered " + got + ", due is " + want);
+        }
     }
 
     static void due(String what, long got, long want) {
         asked++;
         if (got != want) {
             wrong++;
-            System.out.println(what + " answered " + got + ", due is " + want);
+            System.out.println(about + what + " answered " + got + ", due is " + want);
         }
     }
 
@@ -31,7 +55,8 @@ final class Check {
     }
 
     static void finish(String test) {
-        System.out.println(test + ": " + asked + " answers, " + wrong + " not as due");
+        String counted = cases == 0 ? "" : cases + " cases, ";
+        System.out.println(test + ": " + counted + asked + " answers, " + wrong + " not as due");
         if (wrong != 0) {
             System.exit(1);
         }

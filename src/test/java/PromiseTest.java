@@ -1,7 +1,5 @@
 /** For each promise of the document its ordinary inputs, its edges and its wrong inputs. */
 public final class PromiseTest {
-    private static final int[] NO_BLOCKS = {-1, -2, 16, 17, Integer.MIN_VALUE, Integer.MAX_VALUE};
-
     public static void main(String[] args) {
         newObject();
         newObjectHoldsAtMostItsBlocks();
@@ -43,16 +41,10 @@ public final class PromiseTest {
         Check.due(what, got, want);
     }
 
-    private static void readAll(EpochCache x, int... blocks) {
-        for (int block : blocks) {
-            x.read(block);
-        }
-    }
-
     /** R1 = 2, R2 = 1, G1 is empty, G2 = 0, the target is 1; all are clean. */
     private static EpochCache withTargetOne() {
         EpochCache x = new EpochCache(2);
-        readAll(x, 0, 0, 1, 2, 1);
+        Play.readAll(x, 0, 0, 1, 2, 1);
         return x;
     }
 
@@ -108,14 +100,14 @@ public final class PromiseTest {
         due("2: read of what was given up", x.read(3), Integer.MIN_VALUE);
         due("2: clean behind a miss", x.epoch(3), -1);
         EpochCache y = new EpochCache(2);
-        readAll(y, 0, 0, 1);
+        Play.readAll(y, 0, 0, 1);
         due("2: a miss takes the least free slot", y.slot(1), 1);
         Check.dueList("2: a miss comes into R1", y, 1, 1);
         Check.dueList("2: a hit comes into R2", y, 2, 0);
     }
 
     private static void readOfNoBlock() {
-        for (int block : NO_BLOCKS) {
+        for (int block : Play.NO_BLOCKS) {
             EpochCache x = new EpochCache(1);
             x.read(0);
             x.read(0);
@@ -178,7 +170,7 @@ public final class PromiseTest {
     }
 
     private static void writeOfNoBlock() {
-        for (int block : NO_BLOCKS) {
+        for (int block : Play.NO_BLOCKS) {
             EpochCache x = new EpochCache(1);
             x.read(0);
             x.read(0);
@@ -387,7 +379,7 @@ public final class PromiseTest {
         x.detach();
         Check.due("9: the latest one was a hit", x.hit(), true);
         EpochCache y = new EpochCache(2);
-        readAll(y, 0, 0, 1, 2);
+        Play.readAll(y, 0, 0, 1, 2);
         due("9: 1 is in G1", y.list(1), 3);
         y.read(1);
         Check.due("9: a ghost is a miss", y.hit(), false);
@@ -408,7 +400,7 @@ public final class PromiseTest {
         due("10: no access", x.slot(0), -1);
         x.read(0);
         due("10: from the store", x.says(15), -7);
-        for (int block : NO_BLOCKS) {
+        for (int block : Play.NO_BLOCKS) {
             due("10: says(" + block + ")", x.says(block), 0);
         }
     }
@@ -423,7 +415,7 @@ public final class PromiseTest {
         due("11: drained", x.stored(15), -7);
         x.write(15, 8);
         due("11: written again", x.stored(15), -7);
-        for (int block : NO_BLOCKS) {
+        for (int block : Play.NO_BLOCKS) {
             due("11: stored(" + block + ")", x.stored(block), 0);
         }
     }
@@ -483,7 +475,7 @@ public final class PromiseTest {
         x.read(1);
         due("12: held no longer", x.slot(0), -1);
         due("12: a slot that was given back", x.slot(1), 0);
-        for (int block : NO_BLOCKS) {
+        for (int block : Play.NO_BLOCKS) {
             due("12: slot(" + block + ")", x.slot(block), -1);
         }
     }
@@ -497,9 +489,9 @@ public final class PromiseTest {
         due("13: not held, not named", x.named(0), -1);
         x.write(15, 3);
         due("13: as it was written", x.named(15), 0);
-        readAll(x, 1, 2, 3);
+        Play.readAll(x, 1, 2, 3);
         due("13: held no longer, still named", x.named(15), 0);
-        for (int block : NO_BLOCKS) {
+        for (int block : Play.NO_BLOCKS) {
             due("13: named(" + block + ")", x.named(block), -1);
         }
     }
@@ -518,7 +510,7 @@ public final class PromiseTest {
         x.tick();
         due("14: drained", x.epoch(15), -1);
         due("14: not held", x.epoch(0), -1);
-        for (int block : NO_BLOCKS) {
+        for (int block : Play.NO_BLOCKS) {
             due("14: epoch(" + block + ")", x.epoch(block), -1);
         }
     }
@@ -532,21 +524,21 @@ public final class PromiseTest {
         due("15: in G2", x.list(0), 4);
         due("15: in none", x.list(3), 0);
         EpochCache y = new EpochCache(2);
-        readAll(y, 0, 0, 1, 2);
+        Play.readAll(y, 0, 0, 1, 2);
         due("15: in G1", y.list(1), 3);
         // |R1| is the target, but 3 is not in G2: the oldest of R2 goes.
         x.read(3);
         due("15: equal to the target, a new block", x.list(1), 4);
         Check.dueList("15: R1", x, 1, 2, 3);
         Check.dueList("15: G2", x, 4, 0, 1);
-        for (int block : NO_BLOCKS) {
+        for (int block : Play.NO_BLOCKS) {
             due("15: list(" + block + ")", x.list(block), 0);
         }
     }
 
     private static void oldestIsForgotten() {
         EpochCache x = new EpochCache(3);
-        readAll(x, 0, 0, 1, 2, 3);
+        Play.readAll(x, 0, 0, 1, 2, 3);
         Check.dueList("15: R1", x, 1, 2, 3);
         Check.dueList("15: G1", x, 3, 1);
         Check.dueList("15: R2", x, 2, 0);
@@ -556,7 +548,7 @@ public final class PromiseTest {
         Check.dueList("15: oldest of G1 forgotten, R2", x, 2, 0);
         due("15: oldest of G1 forgotten", x.list(1), 0);
         EpochCache y = new EpochCache(2);
-        readAll(y, 0, 0, 1, 1, 2, 2, 3, 3);
+        Play.readAll(y, 0, 0, 1, 1, 2, 2, 3, 3);
         Check.dueList("15: R2", y, 2, 2, 3);
         Check.dueList("15: G2", y, 4, 0, 1);
         y.read(4);
@@ -567,7 +559,7 @@ public final class PromiseTest {
 
     private static void emptyR1GivesNothing() {
         EpochCache x = new EpochCache(2);
-        readAll(x, 0, 0, 1, 1, 2, 2);
+        Play.readAll(x, 0, 0, 1, 1, 2, 2);
         Check.dueList("15: R1", x, 1);
         Check.dueList("15: G2", x, 4, 0);
         // |R1| is the target, and 0 is in G2, but R1 is empty.
@@ -580,9 +572,9 @@ public final class PromiseTest {
 
     private static void member() {
         EpochCache x = new EpochCache(4);
-        readAll(x, 9, 8, 15, 0);
+        Play.readAll(x, 9, 8, 15, 0);
         Check.dueList("16: the oldest first", x, 1, 9, 8, 15, 0);
-        readAll(x, 15, 9, 15);
+        Play.readAll(x, 15, 9, 15);
         Check.dueList("16: R1", x, 1, 8, 0);
         Check.dueList("16: a hit makes it the youngest", x, 2, 9, 15);
         int[] lists = {Integer.MIN_VALUE, -1, 0, 5, 6, Integer.MAX_VALUE};
@@ -604,9 +596,9 @@ public final class PromiseTest {
         due("17: from G2", x.target(), 0);
         Check.dueList("17: above the target, R1 gives", x, 3, 2);
         EpochCache y = new EpochCache(3);
-        readAll(y, 1, 0, 1, 4, 4, 3, 2, 3);
+        Play.readAll(y, 1, 0, 1, 4, 4, 3, 2, 3);
         due("17: more by 1", y.target(), 1);
-        readAll(y, 5, 0);
+        Play.readAll(y, 5, 0);
         due("17: more by |G2| / |G1|", y.target(), 3);
         Check.dueList("17: R1", y, 1, 2, 5);
         Check.dueList("17: G2", y, 4, 1, 4, 3);
@@ -615,7 +607,7 @@ public final class PromiseTest {
         Check.dueList("17: equal to the target, from G2: R1 gives", y, 3, 2);
         Check.dueList("17: equal to the target, from G2: R1 gives", y, 1, 5);
         EpochCache z = new EpochCache(4);
-        readAll(z, 3, 3, 7, 2, 1, 5, 7, 0, 2, 4, 1, 7, 3);
+        Play.readAll(z, 3, 3, 7, 2, 1, 5, 7, 0, 2, 4, 1, 7, 3);
         due("17: before", z.target(), 2);
         Check.dueList("17: G1", z, 3, 5, 0);
         Check.dueList("17: G2", z, 4, 2);
@@ -626,14 +618,14 @@ public final class PromiseTest {
 
     private static void targetStaysInItsBounds() {
         EpochCache x = new EpochCache(3);
-        readAll(x, 1, 0, 1, 4, 4, 3, 2, 3, 5, 0, 4);
+        Play.readAll(x, 1, 0, 1, 4, 4, 3, 2, 3, 5, 0, 4);
         due("17: before", x.target(), 2);
         Check.dueList("17: G1", x, 3, 2);
         Check.dueList("17: G2", x, 4, 1, 3);
         x.read(2);
         due("17: at most C", x.target(), 3);
         EpochCache y = new EpochCache(4);
-        readAll(y, 1, 5, 2, 0, 0, 6, 6, 4, 1, 8);
+        Play.readAll(y, 1, 5, 2, 0, 0, 6, 6, 4, 1, 8);
         due("17: before", y.target(), 1);
         Check.dueList("17: G1", y, 3, 5, 2);
         Check.dueList("17: G2", y, 4, 0);
