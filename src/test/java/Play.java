@@ -54,7 +54,7 @@ final class Play {
         return text.toString();
     }
 
-    private static List<Integer> members(EpochCache x, int list) {
+    static List<Integer> members(EpochCache x, int list) {
         List<Integer> members = new ArrayList<>();
         for (int k = 0; k < STORE && x.member(list, k) != -1; k++) {
             members.add(x.member(list, k));
